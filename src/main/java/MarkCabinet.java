@@ -31,8 +31,7 @@ public final class MarkCabinet {
     private final KeyTree keyTree = new KeyTree();
     private final char[] tape = new char[MOST_BYTES];
     private int tapeLength = 0;
-    private int faultKind = 0;
-    private int faultPlace = NONE;
+    private final ScaleReader reader = new ScaleReader();
     private final int[] before = new int[2 * SLOTS];
     private final int[] after = new int[2 * SLOTS];
 
@@ -92,29 +91,27 @@ public final class MarkCabinet {
     }
 
     public int scales() {
-        ScaleReader reader = new ScaleReader(tape, tapeLength, table.spare);
+        boolean good = reader.readText(tape, tapeLength);
         tapeLength = 0;
-        boolean good = reader.readText();
-        faultKind = reader.faultKind;
-        faultPlace = reader.faultPlace;
         if (!good) {
             return NONE;
         }
-        table.takeSpare();
+        table.cutBy(reader.exchange(table.code));
         return table.markCount();
     }
 
     public int fault(int what) {
         if (what == 0) {
-            return faultKind;
+            return reader.faultKind;
         }
-        return what == 1 ? faultPlace : NONE;
+        return what == 1 ? reader.faultPlace : NONE;
     }
 
     public int mark(int f, int i) {
-        if (!table.hasFind(f) || i < 0 || i >= table.markCount()) {
+        if (!table.hasFind(f) || !table.hasMark(i)) {
             return NONE;
         }
+        table.freshen();
         return table.truthOf(f, i);
     }
 
@@ -140,15 +137,27 @@ public final class MarkCabinet {
     }
 
     public int row(int f, int mode) {
-        return table.hasFind(f) && isMode(mode) ? table.rowOf(f, mode) : NONE;
+        if (!table.hasFind(f) || !isMode(mode)) {
+            return NONE;
+        }
+        table.freshen();
+        return table.rowOf(f, mode);
     }
 
     public int have(int marks, int mode) {
-        return isMode(mode) && table.hasMarks(marks) ? table.having(marks, mode) : NONE;
+        if (!isMode(mode) || !table.hasMarks(marks)) {
+            return NONE;
+        }
+        table.freshen();
+        return table.having(marks, mode);
     }
 
     public int close(int marks, int mode) {
-        return isMode(mode) && table.hasMarks(marks) ? table.closureOf(marks, mode) : NONE;
+        if (!isMode(mode) || !table.hasMarks(marks)) {
+            return NONE;
+        }
+        table.freshen();
+        return table.closureOf(marks, mode);
     }
 
     public int concepts(int mode) {
@@ -191,6 +200,7 @@ public final class MarkCabinet {
         if (!isMode(mode) || !table.hasMarks(premise) || !table.hasMarks(conclusion)) {
             return NONE;
         }
+        table.freshen();
         return table.having(premise, mode) & ~table.having(conclusion, mode);
     }
 
@@ -198,6 +208,7 @@ public final class MarkCabinet {
         if (!isMode(mode)) {
             return NONE;
         }
+        table.freshen();
         exploration.begin(table, mode);
         return exploration.exampleCount;
     }
@@ -225,6 +236,7 @@ public final class MarkCabinet {
         if (!isMode(mode) || !table.hasFinds(finds) || !table.hasMarks(marks)) {
             return NONE;
         }
+        table.freshen();
         seriation.prepare(table, mode, finds, marks);
         return seriation.total();
     }
@@ -233,6 +245,7 @@ public final class MarkCabinet {
         if (!isMode(mode) || !table.hasFinds(finds) || !table.hasMarks(marks)) {
             return NONE;
         }
+        table.freshen();
         seriation.prepare(table, mode, finds, marks);
         return seriation.findAt(k, i);
     }
@@ -244,6 +257,7 @@ public final class MarkCabinet {
         if (Integer.bitCount(finds) > MOST_CROSSED) {
             return NONE;
         }
+        table.freshen();
         crossSearch.prepare(table, mode, finds, marks);
         return what == 0 ? crossSearch.least : crossSearch.bestAt(what - LISTED, what >= LISTED);
     }
@@ -260,6 +274,7 @@ public final class MarkCabinet {
         if (finds == 0 || !table.hasFinds(finds)) {
             return NONE;
         }
+        table.freshen();
         keyTree.prepare(table);
         switch (what) {
             case 0:
@@ -267,7 +282,7 @@ public final class MarkCabinet {
             case 1:
                 return keyTree.askedAt(finds);
             case 2:
-                return keyTree.leaves(finds, 0);
+                return keyTree.leafCount(finds);
             default:
                 return NONE;
         }
@@ -277,6 +292,7 @@ public final class MarkCabinet {
         if (!table.hasFinds(finds) || !table.hasFind(f) || (finds & 1 << f) == 0) {
             return NONE;
         }
+        table.freshen();
         keyTree.prepare(table);
         keyTree.go(finds, f);
         switch (what) {
@@ -339,13 +355,16 @@ public final class MarkCabinet {
     }
 
     private Lattice closedSets(int mode) {
+        table.freshen();
         Lattice lattice = lattices[mode];
         lattice.freshenClosures(table, mode);
         return lattice;
     }
 
     private Lattice ruleBase(int mode) {
-        Lattice lattice = closedSets(mode);
+        table.freshen();
+        Lattice lattice = lattices[mode];
+        lattice.freshenClosures(table, mode);
         lattice.freshenPremises();
         return lattice;
     }
@@ -386,6 +405,18 @@ public final class MarkCabinet {
             turned = turned << 1 | set >> i & 1;
         }
         return turned;
+    }
+
+    /** The finds of a set into a list: how many. */
+    private static int spread(int set, int[] list) {
+        int count = 0;
+        for (int f = 0; f < MOST_FINDS && count < list.length; f++) {
+            if ((set & 1 << f) != 0) {
+                list[count] = f;
+                count++;
+            }
+        }
+        return count;
     }
 
     /** All tellings, in the order in which they came (so by days, too). */
@@ -462,58 +493,55 @@ public final class MarkCabinet {
 
         private void reckon(int kind, int amount, int[] measures) {
             switch (kind) {
-                case ScaleReader.NUMBER:
+                case Tokens.NUMBER:
                     push(amount);
                     break;
-                case ScaleReader.MEASURE:
+                case Tokens.MEASURE:
                     missing = missing || measures[amount] == NONE;
                     push(measures[amount]);
                     break;
-                case ScaleReader.KNOWN:
+                case Tokens.KNOWN:
                     push(measures[amount] == NONE ? 0 : 1);
                     break;
-                case ScaleReader.NOT:
+                case Tokens.NOT:
                     push(notOf(pop()));
                     break;
-                case ScaleReader.OVER:
+                case Tokens.OVER:
                     push(amount == 0 ? 0 : pop() / amount);
                     break;
                 default:
                     int right = pop();
-                    push(join(kind, pop(), right));
+                    int left = pop();
+                    push(missing && isComparison(kind) ? 2 : joined(kind, left, right));
+                    missing = missing && !isComparison(kind);
                     break;
             }
         }
 
-        private int join(int kind, int left, int right) {
+        /** Comparisons never stand in one another, so what is missing at one was missing in it. */
+        private static boolean isComparison(int kind) {
+            return kind == Tokens.LESS || kind == Tokens.EQUAL || kind == Tokens.MORE;
+        }
+
+        private static int joined(int kind, int left, int right) {
             switch (kind) {
-                case ScaleReader.PLUS:
+                case Tokens.LESS:
+                    return left < right ? 1 : 0;
+                case Tokens.EQUAL:
+                    return left == right ? 1 : 0;
+                case Tokens.MORE:
+                    return left > right ? 1 : 0;
+                case Tokens.PLUS:
                     return left + right;
-                case ScaleReader.MINUS:
+                case Tokens.MINUS:
                     return left - right;
-                case ScaleReader.TIMES:
+                case Tokens.TIMES:
                     return left * right;
-                case ScaleReader.LESS:
-                    return compared(left < right);
-                case ScaleReader.EQUAL:
-                    return compared(left == right);
-                case ScaleReader.MORE:
-                    return compared(left > right);
-                case ScaleReader.AND:
+                case Tokens.AND:
                     return left == 0 || right == 0 ? 0 : Math.max(left, right);
                 default:
                     return left == 1 || right == 1 ? 1 : Math.max(left, right);
             }
-        }
-
-        /** Comparisons never stand in one another, so what was missing was missing in this one. */
-        private int compared(boolean so) {
-            boolean open = missing;
-            missing = false;
-            if (open) {
-                return 2;
-            }
-            return so ? 1 : 0;
         }
 
         private static int notOf(int truth) {
@@ -536,8 +564,8 @@ public final class MarkCabinet {
         }
     }
 
-    /** Reads a text into codes, token by token, up to the first fault. */
-    private static final class ScaleReader {
+    /** A text's tokens, one behind another, each with its kind, its place and what it amounts to. */
+    private static final class Tokens {
         private static final int END = 0;
         private static final int BAD = 1;
         private static final int SEMICOLON = 2;
@@ -556,255 +584,100 @@ public final class MarkCabinet {
         private static final int KNOWN = 15;
         private static final int MEASURE = 16;
         private static final int NUMBER = 17;
-
-        private static final int MISPLACED = 1;
-        private static final int PART_BY_ZERO = 2;
-        private static final int TOO_MUCH = 3;
         private static final int MOST_DIGITS = 4;
 
-        private final char[] text;
-        private final int length;
-        private final ScaleCode code;
-        private int at = 0;
-        private int place = 0;
+        private final int[] kinds = new int[MOST_BYTES + 1];
+        private final int[] places = new int[MOST_BYTES + 1];
+        private final int[] amounts = new int[MOST_BYTES + 1];
+        private int last = 0;
+        private int now = 0;
         private int kind = END;
+        private int place = 0;
         private int amount = 0;
-        private int faultKind = 0;
-        private int faultPlace = NONE;
 
-        ScaleReader(char[] text, int length, ScaleCode code) {
-            this.text = text;
-            this.length = length;
-            this.code = code;
-        }
-
-        boolean readText() {
-            code.clear();
-            advance();
-            for (int n = 0; n <= MOST_MARKS && kind != END; n++) {
-                if (n == MOST_MARKS) {
-                    return refuse(TOO_MUCH);
+        /** Cuts a text of at most MOST_BYTES signs; its end is the last token. */
+        void cutText(char[] text, int length) {
+            int at = 0;
+            last = 0;
+            for (int n = 0; n < MOST_BYTES && at < length; n++) {
+                int next = at + 1;
+                if (isLetter(text[at])) {
+                    next = takeWord(text, at, length);
+                } else if (isDigit(text[at])) {
+                    next = takeNumber(text, at, length);
+                } else if (text[at] != ' ' && text[at] != '\n') {
+                    add(signOf(text[at]), at, 0);
                 }
-                if (!readAny(0)) {
-                    return false;
-                }
-                if (kind != SEMICOLON) {
-                    return refuse(MISPLACED);
-                }
-                code.endMark();
-                advance();
+                at = next;
             }
-            return true;
-        }
-
-        private boolean readAny(int open) {
-            if (!readAll(open)) {
-                return false;
-            }
-            for (int n = 0; n < MOST_BYTES && kind == OR; n++) {
-                advance();
-                if (!readAll(open)) {
-                    return false;
-                }
-                code.put(OR, 0);
-            }
-            return true;
-        }
-
-        private boolean readAll(int open) {
-            if (!readClaim(open)) {
-                return false;
-            }
-            for (int n = 0; n < MOST_BYTES && kind == AND; n++) {
-                advance();
-                if (!readClaim(open)) {
-                    return false;
-                }
-                code.put(AND, 0);
-            }
-            return true;
-        }
-
-        private boolean readClaim(int open) {
-            if (kind == KNOWN) {
-                return readKnown();
-            }
-            if (kind != NOT && kind != OPEN) {
-                return readComparison();
-            }
-            if (open >= MOST_OPEN) {
-                return refuse(TOO_MUCH);
-            }
-            boolean negated = kind == NOT;
+            kinds[last] = END;
+            places[last] = length;
+            now = NONE;
             advance();
-            return negated ? readNegated(open + 1) : readBracketed(open + 1);
         }
 
-        private boolean readNegated(int open) {
-            if (!readClaim(open)) {
-                return false;
+        void advance() {
+            if (now < last) {
+                now++;
+                kind = kinds[now];
+                place = places[now];
+                amount = amounts[now];
             }
-            code.put(NOT, 0);
-            return true;
         }
 
-        private boolean readBracketed(int open) {
-            if (!readAny(open)) {
-                return false;
+        private void add(int newKind, int newPlace, int newAmount) {
+            if (last < MOST_BYTES) {
+                kinds[last] = newKind;
+                places[last] = newPlace;
+                amounts[last] = newAmount;
+                last++;
             }
-            if (kind != SHUT) {
-                return refuse(MISPLACED);
-            }
-            advance();
-            return true;
         }
 
-        private boolean readKnown() {
-            advance();
-            if (kind != MEASURE) {
-                return refuse(MISPLACED);
+        private int takeWord(char[] text, int from, int length) {
+            int to = from;
+            while (to < length && isLetter(text[to])) {
+                to++;
             }
-            code.put(KNOWN, amount);
-            advance();
-            return true;
-        }
-
-        private boolean readComparison() {
-            if (!readSum()) {
-                return false;
-            }
-            int sign = kind;
-            if (sign != LESS && sign != EQUAL && sign != MORE) {
-                return refuse(MISPLACED);
-            }
-            advance();
-            if (!readSum()) {
-                return false;
-            }
-            code.put(sign, 0);
-            return true;
-        }
-
-        private boolean readSum() {
-            if (!readProduct()) {
-                return false;
-            }
-            for (int n = 0; n < MOST_BYTES && (kind == PLUS || kind == MINUS); n++) {
-                int sign = kind;
-                advance();
-                if (!readProduct()) {
-                    return false;
-                }
-                code.put(sign, 0);
-            }
-            return true;
-        }
-
-        private boolean readProduct() {
-            if (!readUnit()) {
-                return false;
-            }
-            for (int n = 0; n < MOST_BYTES && (kind == TIMES || kind == OVER); n++) {
-                boolean parted = kind == OVER;
-                advance();
-                if (!(parted ? readDivisor() : readUnit())) {
-                    return false;
-                }
-                if (!parted) {
-                    code.put(TIMES, 0);
-                }
-            }
-            return true;
-        }
-
-        private boolean readDivisor() {
-            if (kind != NUMBER) {
-                return refuse(MISPLACED);
-            }
-            if (amount == 0) {
-                return refuse(PART_BY_ZERO);
-            }
-            code.put(OVER, amount);
-            advance();
-            return true;
-        }
-
-        private boolean readUnit() {
-            if (kind != NUMBER && kind != MEASURE) {
-                return refuse(MISPLACED);
-            }
-            code.put(kind, amount);
-            advance();
-            return true;
-        }
-
-        private boolean refuse(int fault) {
-            faultKind = fault;
-            faultPlace = place;
-            return false;
-        }
-
-        private void advance() {
-            while (at < length && (text[at] == ' ' || text[at] == '\n')) {
-                at++;
-            }
-            place = at;
-            amount = 0;
-            if (at >= length) {
-                kind = END;
-            } else if (isLetter(text[at])) {
-                takeWord();
-            } else if (isDigit(text[at])) {
-                takeNumber();
+            if (to - from == 1 && text[from] >= 'a' && text[from] < 'a' + MEASURES) {
+                add(MEASURE, from, text[from] - 'a');
+            } else if (spells("or", text, from, to)) {
+                add(OR, from, 0);
+            } else if (spells("and", text, from, to)) {
+                add(AND, from, 0);
+            } else if (spells("not", text, from, to)) {
+                add(NOT, from, 0);
+            } else if (spells("known", text, from, to)) {
+                add(KNOWN, from, 0);
             } else {
-                kind = signOf(text[at]);
-                at++;
+                add(BAD, from, 0);
             }
+            return to;
         }
 
-        private void takeWord() {
-            while (at < length && isLetter(text[at])) {
-                at++;
+        private int takeNumber(char[] text, int from, int length) {
+            int n = 0;
+            int to = from;
+            while (to < length && isDigit(text[to])) {
+                if (to - from < MOST_DIGITS) {
+                    n = n * 10 + text[to] - '0';
+                }
+                to++;
             }
-            char first = text[place];
-            if (at - place == 1 && first >= 'a' && first <= 'f') {
-                kind = MEASURE;
-                amount = first - 'a';
-            } else if (spells("or")) {
-                kind = OR;
-            } else if (spells("and")) {
-                kind = AND;
-            } else if (spells("not")) {
-                kind = NOT;
-            } else if (spells("known")) {
-                kind = KNOWN;
-            } else {
-                kind = BAD;
-            }
+            add(to - from > MOST_DIGITS ? BAD : NUMBER, from, n);
+            return to;
         }
 
-        private boolean spells(String word) {
-            if (at - place != word.length()) {
+        private static boolean spells(String word, char[] text, int from, int to) {
+            if (to - from != word.length()) {
                 return false;
             }
             for (int i = 0; i < word.length(); i++) {
-                if (text[place + i] != word.charAt(i)) {
+                if (text[from + i] != word.charAt(i)) {
                     return false;
                 }
             }
             return true;
-        }
-
-        private void takeNumber() {
-            kind = NUMBER;
-            while (at < length && isDigit(text[at])) {
-                if (at - place < MOST_DIGITS) {
-                    amount = amount * 10 + text[at] - '0';
-                } else {
-                    kind = BAD;
-                }
-                at++;
-            }
         }
 
         private static boolean isLetter(char c) {
@@ -843,6 +716,190 @@ public final class MarkCabinet {
         }
     }
 
+    /** Reads a text into codes up to the first fault: from left to right, so that it is the first by its place. */
+    private static final class ScaleReader {
+        private static final int MISPLACED = 1;
+        private static final int PART_BY_ZERO = 2;
+        private static final int TOO_MUCH = 3;
+
+        private final Tokens tokens = new Tokens();
+        private ScaleCode code = new ScaleCode();
+        private int faultKind = 0;
+        private int faultPlace = NONE;
+
+        boolean readText(char[] text, int length) {
+            code.clear();
+            faultKind = 0;
+            faultPlace = NONE;
+            tokens.cutText(text, length);
+            for (int n = 0; n <= MOST_MARKS && tokens.kind != Tokens.END; n++) {
+                if (n == MOST_MARKS) {
+                    return refuse(TOO_MUCH);
+                }
+                if (!readClaims(0)) {
+                    return false;
+                }
+                if (tokens.kind != Tokens.SEMICOLON) {
+                    return refuse(MISPLACED);
+                }
+                code.endMark();
+                tokens.advance();
+            }
+            return true;
+        }
+
+        /** Hands out the codes that were read, and takes old ones to write over them. */
+        ScaleCode exchange(ScaleCode old) {
+            ScaleCode read = code;
+            code = old;
+            return read;
+        }
+
+        /** Claims joined by or and and; an or waits until the ands behind it are read. */
+        private boolean readClaims(int open) {
+            if (!readClaim(open)) {
+                return false;
+            }
+            boolean waiting = false;
+            for (int n = 0; n < MOST_BYTES && (tokens.kind == Tokens.OR || tokens.kind == Tokens.AND); n++) {
+                boolean or = tokens.kind == Tokens.OR;
+                if (or && waiting) {
+                    code.put(Tokens.OR, 0);
+                }
+                waiting = waiting || or;
+                tokens.advance();
+                if (!readClaim(open)) {
+                    return false;
+                }
+                if (!or) {
+                    code.put(Tokens.AND, 0);
+                }
+            }
+            if (waiting) {
+                code.put(Tokens.OR, 0);
+            }
+            return true;
+        }
+
+        private boolean readClaim(int open) {
+            int kind = tokens.kind;
+            if (kind == Tokens.KNOWN) {
+                return readKnown();
+            }
+            if (kind != Tokens.NOT && kind != Tokens.OPEN) {
+                return readComparison();
+            }
+            if (open >= MOST_OPEN) {
+                return refuse(TOO_MUCH);
+            }
+            tokens.advance();
+            return kind == Tokens.NOT ? readNegated(open + 1) : readBracketed(open + 1);
+        }
+
+        private boolean readNegated(int open) {
+            if (!readClaim(open)) {
+                return false;
+            }
+            code.put(Tokens.NOT, 0);
+            return true;
+        }
+
+        private boolean readBracketed(int open) {
+            if (!readClaims(open)) {
+                return false;
+            }
+            if (tokens.kind != Tokens.SHUT) {
+                return refuse(MISPLACED);
+            }
+            tokens.advance();
+            return true;
+        }
+
+        private boolean readKnown() {
+            tokens.advance();
+            if (tokens.kind != Tokens.MEASURE) {
+                return refuse(MISPLACED);
+            }
+            code.put(Tokens.KNOWN, tokens.amount);
+            tokens.advance();
+            return true;
+        }
+
+        private boolean readComparison() {
+            if (!readSum()) {
+                return false;
+            }
+            int sign = tokens.kind;
+            if (!ScaleCode.isComparison(sign)) {
+                return refuse(MISPLACED);
+            }
+            tokens.advance();
+            if (!readSum()) {
+                return false;
+            }
+            code.put(sign, 0);
+            return true;
+        }
+
+        /** Units joined by signs; a plus or minus waits until what binds closer behind it is read. */
+        private boolean readSum() {
+            if (!readUnit()) {
+                return false;
+            }
+            int waiting = NONE;
+            for (int n = 0; n < MOST_BYTES && isArithmetic(tokens.kind); n++) {
+                int sign = tokens.kind;
+                boolean loose = sign == Tokens.PLUS || sign == Tokens.MINUS;
+                if (loose && waiting != NONE) {
+                    code.put(waiting, 0);
+                }
+                waiting = loose ? sign : waiting;
+                tokens.advance();
+                if (!(sign == Tokens.OVER ? readDivisor() : readUnit())) {
+                    return false;
+                }
+                if (sign == Tokens.TIMES) {
+                    code.put(sign, 0);
+                }
+            }
+            if (waiting != NONE) {
+                code.put(waiting, 0);
+            }
+            return true;
+        }
+
+        private static boolean isArithmetic(int kind) {
+            return kind == Tokens.PLUS || kind == Tokens.MINUS || kind == Tokens.TIMES || kind == Tokens.OVER;
+        }
+
+        private boolean readDivisor() {
+            if (tokens.kind != Tokens.NUMBER) {
+                return refuse(MISPLACED);
+            }
+            if (tokens.amount == 0) {
+                return refuse(PART_BY_ZERO);
+            }
+            code.put(Tokens.OVER, tokens.amount);
+            tokens.advance();
+            return true;
+        }
+
+        private boolean readUnit() {
+            if (tokens.kind != Tokens.NUMBER && tokens.kind != Tokens.MEASURE) {
+                return refuse(MISPLACED);
+            }
+            code.put(tokens.kind, tokens.amount);
+            tokens.advance();
+            return true;
+        }
+
+        private boolean refuse(int fault) {
+            faultKind = fault;
+            faultPlace = tokens.place;
+            return false;
+        }
+    }
+
     /** Finds against marks in the view, cut anew only where something has changed. */
     private static final class Table {
         private int finds = 0;
@@ -850,7 +907,6 @@ public final class MarkCabinet {
         private int day = LAST_DAY;
         private final int[] known = new int[2 * SLOTS];
         private ScaleCode code = new ScaleCode();
-        private ScaleCode spare = new ScaleCode();
         private final int[] sure = new int[MOST_FINDS];
         private final int[] open = new int[MOST_FINDS];
         private final boolean[] fresh = new boolean[MOST_FINDS];
@@ -873,6 +929,10 @@ public final class MarkCabinet {
 
         boolean hasMarks(int set) {
             return set >= 0 && set >> code.marks == 0;
+        }
+
+        boolean hasMark(int i) {
+            return i >= 0 && i < code.marks;
         }
 
         int markCount() {
@@ -903,32 +963,36 @@ public final class MarkCabinet {
             forget();
         }
 
-        void takeSpare() {
-            ScaleCode old = code;
-            code = spare;
-            spare = old;
+        void cutBy(ScaleCode newCode) {
+            code = newCode;
             forget();
         }
 
         private void forget() {
-            for (int f = 0; f < MOST_FINDS; f++) {
+            for (int f = 0; f < finds; f++) {
                 fresh[f] = false;
             }
             changes++;
         }
 
+        /** Cuts the marks of all finds that are not fresh: whoever reads rows calls this ahead. */
+        void freshen() {
+            for (int f = 0; f < finds; f++) {
+                if (!fresh[f]) {
+                    cut(f);
+                }
+            }
+        }
+
         int truthOf(int f, int i) {
-            cut(f);
             return sure[f] >> i & 1 | (open[f] >> i & 1) << 1;
         }
 
         int rowOf(int f, int mode) {
-            cut(f);
             return mode == 0 ? sure[f] : sure[f] | open[f];
         }
 
         int openOf(int f) {
-            cut(f);
             return open[f];
         }
 
@@ -971,9 +1035,6 @@ public final class MarkCabinet {
         }
 
         private void cut(int f) {
-            if (fresh[f]) {
-                return;
-            }
             gather(known, keeper, f, measures);
             sure[f] = 0;
             open[f] = 0;
@@ -1019,7 +1080,9 @@ public final class MarkCabinet {
                 closures = new int[size];
                 closed = new int[size];
             }
-            Arrays.fill(closures, size - 1);
+            for (int s = 0; s < size; s++) {
+                closures[s] = size - 1;
+            }
             for (int f = 0; f < table.finds; f++) {
                 int r = backwards(table.rowOf(f, mode), marks);
                 closures[r] = r;
@@ -1392,18 +1455,6 @@ public final class MarkCabinet {
         }
     }
 
-    /** The finds of a set into a list: how many. */
-    private static int spread(int set, int[] list) {
-        int count = 0;
-        for (int f = 0; f < MOST_FINDS && count < list.length; f++) {
-            if ((set & 1 << f) != 0) {
-                list[count] = f;
-                count++;
-            }
-        }
-        return count;
-    }
-
     /** The first order with the fewest crosses outside the longest runs, by trying orders as words. */
     private static final class CrossSearch {
         private static final int LEVELS = MOST_CROSSED + 1;
@@ -1613,7 +1664,11 @@ public final class MarkCabinet {
             return least;
         }
 
-        int leaves(int set, int depth) {
+        int leafCount(int set) {
+            return leaves(set, 0);
+        }
+
+        private int leaves(int set, int depth) {
             int i = askedAt(set);
             if (i == NONE || depth > MOST_MARKS) {
                 return 1;

@@ -133,6 +133,9 @@ public final class OracleTest {
         boolean good = true;
         int day = 0;
         final int style;
+        int m = 0;
+        int f = 0;
+        int s = 0;
 
         Run(long seed) {
             random = new Random(seed);
@@ -496,9 +499,7 @@ public final class OracleTest {
                     break;
                 }
                 case 10: {
-                    int m = mode();
-                    int f = smallFindSet(6);
-                    int s = markSet();
+                    choose(6);
                     same("rows(" + m + ", " + f + ", " + s + ")", x.rows(m, f, s), n.rows(m, f, s));
                     break;
                 }
@@ -506,9 +507,7 @@ public final class OracleTest {
                     place();
                     break;
                 case 12: {
-                    int m = mode();
-                    int f = smallFindSet(random.nextInt(60) == 0 ? 9 : 6);
-                    int s = markSet();
+                    choose(random.nextInt(60) == 0 ? 9 : 6);
                     for (int t = 0; t < 4; t++) {
                         int w = what(1, 9);
                         same("crosses(" + m + ", " + f + ", " + s + ", " + w + ")", x.crosses(m, f, s, w), n.crosses(m, f, s, w));
@@ -568,13 +567,21 @@ public final class OracleTest {
             }
         }
 
-        void place() {
-            int m = mode();
-            int f = smallFindSet(6);
-            int s = markSet();
+        /** A mode, finds and marks for a row: often those of the last time, whatever has changed since. */
+        void choose(int most) {
+            if (random.nextInt(3) == 0) {
+                return;
+            }
+            m = mode();
+            f = smallFindSet(most);
+            s = markSet();
             if (random.nextBoolean() && s >= 0) {
                 s &= random.nextInt();
             }
+        }
+
+        void place() {
+            choose(6);
             long rows = n.rows(m, f, s);
             for (int t = 0; t < 3; t++) {
                 long k = rows > 0 && random.nextInt(10) != 0 ? Math.floorMod(random.nextLong(), rows) : random.nextInt(4) - 1 + rows;

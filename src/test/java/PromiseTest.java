@@ -284,6 +284,7 @@ public final class PromiseTest {
         due("a not is open no more behind its claim", scale(x, times("not ", 8) + "a>1 or " + times("not ", 8) + "b>1;"), 1);
         String full = times("a>1", 1) + times(" or a>1", 113);
         due("800 bytes", scale(x, full + times(" ", 799 - full.length()) + ";"), 1);
+        due("800 tokens", scale(x, "a>1" + times("+1", 398) + ";"), 1);
         due("none again", scale(x, ""), 0);
         due("look(1)", x.look(1), 0);
     }
@@ -310,6 +311,23 @@ public final class PromiseTest {
         fault("(a)>1;", 1, 2);
         fault("(a>1;", 1, 4);
         fault("a>1);", 1, 3);
+        fault(times(" ", 797) + "abc", 1, 797);
+        fault(times(" ", 796) + "1234", 1, 800);
+        fault(times(" ", 795) + "12345", 1, 795);
+        fault(times("(", 8) + times(" ", 791) + "a", 1, 800);
+        fault("a>1" + times("+1", 398) + "+", 1, 800);
+        fault("a>1 xr b>1;", 1, 4);
+        fault("a>1 bnd b>1;", 1, 4);
+        fault("bot a>1;", 1, 0);
+        fault("nknow a;", 1, 0);
+        fault("az>1;", 1, 0);
+        fault("aA>1;", 1, 0);
+        fault("aZ>1;", 1, 0);
+        fault("a@>1;", 1, 1);
+        fault("a[>1;", 1, 1);
+        fault("a`>1;", 1, 1);
+        fault("a{>1;", 1, 1);
+        fault("a:>1;", 1, 1);
         fault("a>(b);", 1, 2);
         fault("a>not b;", 1, 2);
         fault("known 1>2;", 1, 6);
@@ -838,6 +856,11 @@ public final class PromiseTest {
         due("the chain backwards", chain.place(0, 8191, 4095, 1, 12), 0);
         x.find();
         promise = 27;
+        due("ahead of a change", x.rows(0, 15, 7), 2);
+        x.tell(0, 2, 0, 0, 1);
+        due("behind it", x.rows(0, 15, 7), 4);
+        x.tell(0, 2, 0, 1, 1);
+        due("and back", x.rows(0, 15, 7), 2);
         due("sure", x.rows(0, 31, 1), 48);
         due("may", x.rows(1, 31, 1), 36);
     }
@@ -872,6 +895,11 @@ public final class PromiseTest {
         due("no set", x.crosses(0, 31, -1, 0), -1);
         MarkCabinet y = table(12, 1, 2, 3, 5, 9, 17, 33, 4094);
         due("a star", y.crosses(0, 255, 4095, 0), 4);
+        due("ahead of a change", x.crosses(0, 31, 7, 0), 1);
+        x.tell(0, 4, 1, -1, 1);
+        due("behind it, sure", x.crosses(0, 31, 7, 0), 0);
+        due("behind it, may", x.crosses(1, 31, 7, 0), 1);
+        due("sure again", x.crosses(0, 31, 7, 0), 0);
     }
 
     private static void costs() {
@@ -1049,6 +1077,12 @@ public final class PromiseTest {
         due("by scales as they are", x.changed(0, 3, 4, 0), 1);
         x.view(1, 0);
         due("whatever the view", x.changed(0, 3, 4, 10), 0);
+        for (int m = 0; m < 6; m++) {
+            x.tell(0, 1, m, 3, 9);
+            x.tell(0, 1, m, 2, 10);
+        }
+        due("every measure is told anew", x.changed(0, 9, 10, 0), 1);
+        due("every measure is told anew", x.changed(0, 9, 10, 10), 12);
     }
 
     /** No call throws, whatever its arguments are and whatever came ahead of it. */

@@ -1093,10 +1093,10 @@ public final class MarkCabinet {
 
         /** Each set gets what all rows above it have in common: mark by mark, from the sets that have it. */
         private void meetAbove() {
-            for (int bit = 1; bit < size; bit <<= 1) {
+            for (int i = 0; i < marks; i++) {
                 for (int s = 0; s < size; s++) {
-                    if ((s & bit) == 0) {
-                        closures[s] &= closures[s | bit];
+                    if ((s >> i & 1) == 0) {
+                        closures[s] &= closures[s | 1 << i];
                     }
                 }
             }
@@ -1136,9 +1136,9 @@ public final class MarkCabinet {
         /** The closures of all premises that are in a set and are not itself, joined. */
         private int gatheredBelow(int s) {
             int all = 0;
-            for (int bit = 1; bit < size; bit <<= 1) {
-                if ((s & bit) != 0) {
-                    all |= gathered[s ^ bit];
+            for (int i = 0; i < marks; i++) {
+                if ((s >> i & 1) != 0) {
+                    all |= gathered[s ^ 1 << i];
                 }
             }
             return all;
@@ -1381,7 +1381,10 @@ public final class MarkCabinet {
             return countFrom(0, 0);
         }
 
-        /** The find at a place of row k: each find that could stand there has so many rows behind it. */
+        /**
+         * The find at a place of row k: each find that could stand there has so many rows behind it. Those are
+         * counted for the set that is like the used one, but has the least of all mates.
+         */
         int findAt(long k, int i) {
             if (i < 0 || i >= count || k < 0 || k >= total()) {
                 return NONE;

@@ -1,25 +1,7 @@
 /** Each promise of the document by hand: ordinary inputs, the edges that it names, and wrong inputs. */
-public final class PromiseTest {
-    private static final int LOW = Integer.MIN_VALUE;
-    private static final int HIGH = Integer.MAX_VALUE;
-    private static int promise = 0;
-    private static int checked = 0;
-    private static int wrong = 0;
-
-    private static void due(String what, long got, long want) {
-        checked++;
-        if (got != want) {
-            wrong++;
-            System.out.println("promise " + promise + ": " + what + " answered " + got + ", due is " + want);
-        }
-    }
-
-    private static void yes(String what, boolean got) {
-        due(what, got ? 1 : 0, 1);
-    }
-
-    private static void no(String what, boolean got) {
-        due(what, got ? 1 : 0, 0);
+public final class PromiseTest extends Bench {
+    private static void promise(int n) {
+        about("promise " + n);
     }
 
     public static void main(String[] args) {
@@ -54,56 +36,11 @@ public final class PromiseTest {
         quarrels();
         changes();
         anyArguments();
-        System.out.println(checked + " answers looked at, " + wrong + " are not as due");
-        if (wrong != 0) {
-            System.exit(1);
-        }
-    }
-
-    private static int word(String s, int from) {
-        int w = 0;
-        for (int i = 0; i < 4; i++) {
-            w = w << 8 | (from + i < s.length() ? s.charAt(from + i) : ' ');
-        }
-        return w;
-    }
-
-    private static int scale(MarkCabinet x, String text) {
-        for (int p = 0; p < text.length(); p += 20) {
-            x.feed(word(text, p), word(text, p + 4), word(text, p + 8), word(text, p + 12), word(text, p + 16));
-        }
-        x.end(text.length());
-        return x.scales();
-    }
-
-    private static String times(String s, int n) {
-        StringBuilder all = new StringBuilder();
-        for (int i = 0; i < n; i++) {
-            all.append(s);
-        }
-        return all.toString();
-    }
-
-    /** A cabinet whose finds have just these sets of marks: two marks are cut from each measure. */
-    private static MarkCabinet table(int marks, int... rows) {
-        MarkCabinet x = new MarkCabinet();
-        for (int f = 0; f < rows.length; f++) {
-            x.find();
-            for (int m = 0; m < 6; m++) {
-                x.tell(0, f, m, rows[f] >> 2 * m & 3, 0);
-            }
-        }
-        StringBuilder text = new StringBuilder();
-        for (int i = 0; i < marks; i++) {
-            char m = (char) ('a' + i / 2);
-            text.append(i % 2 == 1 ? m + ">1;" : m + "=1 or " + m + "=3;");
-        }
-        scale(x, text.toString());
-        return x;
+        finish();
     }
 
     private static void newObject() {
-        promise = 1;
+        promise(1);
         MarkCabinet x = new MarkCabinet();
         due("look(0)", x.look(0), 0);
         due("look(1)", x.look(1), 0);
@@ -125,7 +62,7 @@ public final class PromiseTest {
     }
 
     private static void finds() {
-        promise = 2;
+        promise(2);
         MarkCabinet x = new MarkCabinet();
         for (int f = 0; f < 16; f++) {
             due("find()", x.find(), f);
@@ -135,7 +72,7 @@ public final class PromiseTest {
     }
 
     private static void tellings() {
-        promise = 3;
+        promise(3);
         MarkCabinet x = new MarkCabinet();
         no("of no find", x.tell(0, 0, 0, 1, 0));
         x.find();
@@ -168,7 +105,7 @@ public final class PromiseTest {
     }
 
     private static void views() {
-        promise = 4;
+        promise(4);
         MarkCabinet x = new MarkCabinet();
         no("keeper -1", x.view(-1, 0));
         no("keeper 3", x.view(3, 0));
@@ -184,7 +121,7 @@ public final class PromiseTest {
     }
 
     private static void values() {
-        promise = 5;
+        promise(5);
         MarkCabinet x = new MarkCabinet();
         x.find();
         x.find();
@@ -223,7 +160,7 @@ public final class PromiseTest {
     }
 
     private static void tape() {
-        promise = 6;
+        promise(6);
         MarkCabinet x = new MarkCabinet();
         for (int n = 1; n <= 40; n++) {
             due("feed " + n, x.feed(0x20202020, 0x20202020, 0x0A202020, 0x20202020, 0x20202020), 20 * n);
@@ -247,7 +184,7 @@ public final class PromiseTest {
     }
 
     private static void ends() {
-        promise = 7;
+        promise(7);
         MarkCabinet x = new MarkCabinet();
         x.feed(0x613E313B, 0x623E313B, 0x633E313B, 0x643E313B, 0x653E313B);
         no("end(-1)", x.end(-1));
@@ -264,7 +201,7 @@ public final class PromiseTest {
     }
 
     private static void scales() {
-        promise = 8;
+        promise(8);
         MarkCabinet x = new MarkCabinet();
         due("nothing", scale(x, ""), 0);
         due("blanks", scale(x, " \n \n"), 0);
@@ -289,15 +226,8 @@ public final class PromiseTest {
         due("look(1)", x.look(1), 0);
     }
 
-    private static void fault(String text, int kind, int place) {
-        MarkCabinet x = new MarkCabinet();
-        due("\"" + text + "\"", scale(x, text), -1);
-        due("\"" + text + "\" fault(0)", x.fault(0), kind);
-        due("\"" + text + "\" fault(1)", x.fault(1), place);
-    }
-
     private static void faults() {
-        promise = 9;
+        promise(9);
         fault("a", 1, 1);
         fault("a  ", 1, 3);
         fault("a>1", 1, 3);
@@ -381,7 +311,7 @@ public final class PromiseTest {
     }
 
     private static void marks() {
-        promise = 10;
+        promise(10);
         MarkCabinet x = new MarkCabinet();
         x.find();
         scale(x, "a>1;a=1;a<1;");
@@ -404,18 +334,8 @@ public final class PromiseTest {
         due("no mark 1 any more", x.mark(0, 1), -1);
     }
 
-    private static int truth(String claim) {
-        MarkCabinet x = new MarkCabinet();
-        x.find();
-        x.tell(0, 0, 0, 7, 0);
-        x.tell(0, 0, 1, 0, 0);
-        x.tell(0, 0, 2, 999, 0);
-        due("\"" + claim + "\" is read", scale(x, claim + ";"), 1);
-        return x.mark(0, 0);
-    }
-
     private static void threeValues() {
-        promise = 10;
+        promise(10);
         String[] t = {"a=0", "a=7", "d=0"};
         for (int i = 0; i < 3; i++) {
             due("not " + t[i], truth("not " + t[i]), i == 2 ? 2 : 1 - i);
@@ -442,7 +362,7 @@ public final class PromiseTest {
     }
 
     private static void arithmetic() {
-        promise = 10;
+        promise(10);
         due("2+3*4=14", truth("2+3*4=14"), 1);
         due("2*3+4=10", truth("2*3+4=10"), 1);
         due("9-3-2=4", truth("9-3-2=4"), 1);
@@ -465,7 +385,7 @@ public final class PromiseTest {
     }
 
     private static void looks() {
-        promise = 11;
+        promise(11);
         MarkCabinet x = table(3, 1, 2, 4);
         due("look(0)", x.look(0), 3);
         due("look(1)", x.look(1), 3);
@@ -485,7 +405,7 @@ public final class PromiseTest {
     }
 
     private static void rowsOfMarks() {
-        promise = 12;
+        promise(12);
         MarkCabinet x = table(12, 4095, 0, 2730, 1365);
         due("row(0, 0)", x.row(0, 0), 4095);
         due("row(1, 0)", x.row(1, 0), 0);
@@ -501,7 +421,7 @@ public final class PromiseTest {
     }
 
     private static void haves() {
-        promise = 13;
+        promise(13);
         MarkCabinet x = table(3, 3, 6, 1, 4);
         x.find();
         due("have(0, 0)", x.have(0, 0), 31);
@@ -518,7 +438,7 @@ public final class PromiseTest {
     }
 
     private static void closures() {
-        promise = 14;
+        promise(14);
         MarkCabinet x = table(4, 3, 7, 11);
         due("close(0, 0)", x.close(0, 0), 3);
         due("close(4, 0)", x.close(4, 0), 7);
@@ -535,7 +455,7 @@ public final class PromiseTest {
     }
 
     private static void concepts() {
-        promise = 15;
+        promise(15);
         MarkCabinet x = table(3, 3, 6, 1, 4);
         due("concepts(0)", x.concepts(0), 7);
         due("concepts(1)", x.concepts(1), 7);
@@ -547,7 +467,7 @@ public final class PromiseTest {
         }
         MarkCabinet y = table(12, rows);
         due("all sets are closed", y.concepts(0), 4096);
-        promise = 16;
+        promise(16);
         int[] due = {0, 4, 2, 6, 1, 3, 7};
         for (int i = 0; i < 7; i++) {
             due("concept(0, " + i + ")", x.concept(0, i), due[i]);
@@ -559,7 +479,7 @@ public final class PromiseTest {
         due("the last but one of all", y.concept(0, 4094), 2047);
         due("the last of all", y.concept(0, 4095), 4095);
         due("behind all", y.concept(0, 4096), -1);
-        promise = 17;
+        promise(17);
         for (int i = 0; i < 7; i++) {
             due("number(0, " + due[i] + ")", x.number(0, due[i]), i);
         }
@@ -576,7 +496,7 @@ public final class PromiseTest {
     }
 
     private static void rules() {
-        promise = 18;
+        promise(18);
         MarkCabinet x = table(3, 3, 6, 1, 4);
         due("rules(0)", x.rules(0), 1);
         due("rules(2)", x.rules(2), -1);
@@ -589,7 +509,7 @@ public final class PromiseTest {
         due("all pairs", y.rules(0), 66);
         due("no finds", table(12).rules(0), 1);
         due("no finds, no marks", table(0).rules(0), 0);
-        promise = 19;
+        promise(19);
         due("rule(0, 0, 0)", x.rule(0, 0, 0), 5);
         due("rule(0, 0, 1)", x.rule(0, 0, 1), 7);
         due("rule(0, 0, 2)", x.rule(0, 0, 2), -1);
@@ -615,7 +535,7 @@ public final class PromiseTest {
     }
 
     private static void follows() {
-        promise = 20;
+        promise(20);
         // 0 leads to 1, 1 leads to 2, 2 leads to 3: step by step, the first rule that can.
         MarkCabinet x = table(4, 8, 12, 14, 15, 0);
         due("rules", x.rules(0), 3);
@@ -647,7 +567,7 @@ public final class PromiseTest {
     }
 
     private static void againsts() {
-        promise = 21;
+        promise(21);
         MarkCabinet x = table(3, 3, 6, 1, 4);
         due("against(0, 1, 2)", x.against(0, 1, 2), 4);
         due("against(0, 0, 7)", x.against(0, 0, 7), 15);
@@ -665,86 +585,86 @@ public final class PromiseTest {
 
     private static void explorations() {
         MarkCabinet x = table(3, 3, 6, 1, 4);
-        promise = 22;
+        promise(22);
         due("explore(2)", x.explore(2), -1);
         due("explore(-1)", x.explore(-1), -1);
         due("nothing is explored", x.look(5), -1);
-        promise = 23;
+        promise(23);
         due("nothing is asked", x.question(0), -1);
-        promise = 24;
+        promise(24);
         due("nothing to accept", x.yes(), -1);
-        promise = 25;
+        promise(25);
         due("nothing to refute", x.no(5), -1);
-        promise = 26;
+        promise(26);
         due("nothing accepted", x.accepted(0, 0), -1);
-        promise = 22;
+        promise(22);
         due("explore(0)", x.explore(0), 4);
-        promise = 23;
+        promise(23);
         due("question(0)", x.question(0), 5);
         due("question(1)", x.question(1), 7);
         due("question(2)", x.question(2), -1);
         due("question(-1)", x.question(-1), -1);
-        promise = 25;
+        promise(25);
         due("has not the premise", x.no(4), -1);
         due("has all of the closure", x.no(7), -1);
         due("no such set", x.no(8), -1);
         due("no such set", x.no(-1), -1);
         due("a counterexample", x.no(5), 5);
         due("no question any more", x.no(5), -1);
-        promise = 23;
+        promise(23);
         due("no question any more", x.question(0), -1);
         due("no question any more", x.question(1), -1);
-        promise = 24;
+        promise(24);
         due("no question any more", x.yes(), -1);
-        promise = 22;
+        promise(22);
         due("a new beginning", x.explore(1), 4);
-        promise = 24;
+        promise(24);
         due("yes()", x.yes(), 1);
-        promise = 26;
+        promise(26);
         due("accepted(0, 0)", x.accepted(0, 0), 5);
         due("accepted(0, 1)", x.accepted(0, 1), 7);
         due("accepted(0, 2)", x.accepted(0, 2), -1);
         due("accepted(0, -1)", x.accepted(0, -1), -1);
         due("accepted(1, 0)", x.accepted(1, 0), -1);
         due("accepted(-1, 0)", x.accepted(-1, 0), -1);
-        promise = 22;
+        promise(22);
         due("no such mode: it goes on", x.explore(2), -1);
         due("as it was", x.look(6), 1);
         due("begun anew", x.explore(0), 4);
         due("nothing is accepted", x.look(6), 0);
-        promise = 26;
+        promise(26);
         due("nothing is accepted", x.accepted(0, 0), -1);
         // An answer must keep what has been accepted: here that 2 leads to 1.
         MarkCabinet y = table(3);
-        promise = 22;
+        promise(22);
         due("no finds", y.explore(0), 0);
-        promise = 23;
+        promise(23);
         due("none leads to all", y.question(0) * 10 + y.question(1), 7);
-        promise = 25;
+        promise(25);
         due("the empty one", y.no(0), 1);
-        promise = 23;
+        promise(23);
         due("the last mark first", y.question(0), 4);
-        promise = 25;
+        promise(25);
         due("with another", y.no(6), 2);
-        promise = 23;
+        promise(23);
         due("asked again, for less", y.question(0), 4);
         due("asked again, for less", y.question(1), 6);
-        promise = 24;
+        promise(24);
         due("yes", y.yes(), 1);
-        promise = 23;
+        promise(23);
         due("the next one", y.question(0), 2);
         due("the next one", y.question(1), 6);
-        promise = 25;
+        promise(25);
         due("keeps", y.no(2), 3);
-        promise = 23;
+        promise(23);
         due("then the least mark", y.question(0), 1);
-        promise = 25;
+        promise(25);
         due("breaks what was accepted", y.no(5), -1);
         due("keeps it", y.no(3), 4);
     }
 
     private static void exploringStandsAlone() {
-        promise = 23;
+        promise(23);
         MarkCabinet x = table(3, 3, 6, 1, 4);
         x.explore(0);
         x.find();
@@ -753,9 +673,9 @@ public final class PromiseTest {
         scale(x, "a>1;");
         due("question(0)", x.question(0), 5);
         due("question(1)", x.question(1), 7);
-        promise = 25;
+        promise(25);
         due("as many marks as there were", x.no(5), 5);
-        promise = 23;
+        promise(23);
         x.view(0, 0);
         scale(x, "a=1 or a=3;a>1;b=1 or b=3;");
         x.explore(0);
@@ -770,7 +690,7 @@ public final class PromiseTest {
     }
 
     private static void exploringLimits() {
-        promise = 24;
+        promise(24);
         int[] single = new int[12];
         for (int f = 0; f < 12; f++) {
             single[f] = 1 << f;
@@ -783,15 +703,15 @@ public final class PromiseTest {
         }
         due("the 61st", x.yes(), -1);
         due("look(6)", x.look(6), 60);
-        promise = 23;
+        promise(23);
         due("it is still asked", x.question(1), 4095);
-        promise = 25;
+        promise(25);
         int p = x.question(0);
         due("but can be refuted", x.no(p), 13);
-        promise = 26;
+        promise(26);
         due("the last one", x.accepted(59, 1), 4095);
         due("behind it", x.accepted(60, 1), -1);
-        promise = 25;
+        promise(25);
         MarkCabinet y = table(12, 0, 0, 0, 0, 0, 0, 0, 0, 0, 0, 0, 0, 0, 0, 0, 0);
         due("16 alike", y.explore(0), 16);
         for (int n = 17; n <= 40; n++) {
@@ -800,13 +720,13 @@ public final class PromiseTest {
         due("it is asked", y.question(0) >= 0 ? 1 : 0, 1);
         due("the 41st", y.no(y.question(0)), -1);
         due("look(5)", y.look(5), 40);
-        promise = 24;
+        promise(24);
         due("but can be accepted", y.yes(), 1);
     }
 
     private static void seriations() {
         MarkCabinet x = table(3, 3, 6, 1, 4);
-        promise = 27;
+        promise(27);
         due("rows(0, 15, 7)", x.rows(0, 15, 7), 2);
         due("rows(0, 15, 0)", x.rows(0, 15, 0), 24);
         due("rows(0, 15, 1)", x.rows(0, 15, 1), 12);
@@ -827,7 +747,7 @@ public final class PromiseTest {
         due("8 pairs", pairs.rows(0, 65535, 255), 40320L * 256);
         MarkCabinet chain = table(12, 1, 3, 6, 12, 24, 48, 96, 192, 384, 768, 1536, 3072, 2048);
         due("a chain", chain.rows(0, 8191, 4095), 2);
-        promise = 28;
+        promise(28);
         int[] row = {2, 0, 1, 3};
         for (int i = 0; i < 4; i++) {
             due("row 0", x.place(0, 15, 7, 0, i), row[i]);
@@ -855,7 +775,7 @@ public final class PromiseTest {
         due("the chain", chain.place(0, 8191, 4095, 0, 12), 12);
         due("the chain backwards", chain.place(0, 8191, 4095, 1, 12), 0);
         x.find();
-        promise = 27;
+        promise(27);
         due("ahead of a change", x.rows(0, 15, 7), 2);
         x.tell(0, 2, 0, 0, 1);
         due("behind it", x.rows(0, 15, 7), 4);
@@ -866,7 +786,7 @@ public final class PromiseTest {
     }
 
     private static void crosses() {
-        promise = 29;
+        promise(29);
         MarkCabinet x = table(3, 3, 6, 1, 4, 5, 0, 0, 0, 7);
         due("crosses(0, 15, 7, 0)", x.crosses(0, 15, 7, 0), 0);
         due("the first best", x.crosses(0, 15, 7, 10), 2);
@@ -903,7 +823,7 @@ public final class PromiseTest {
     }
 
     private static void costs() {
-        promise = 30;
+        promise(30);
         MarkCabinet x = table(2, 1, 2);
         no("mark -1", x.cost(-1, 1));
         no("mark 12", x.cost(12, 1));
@@ -925,7 +845,7 @@ public final class PromiseTest {
     }
 
     private static void keys() {
-        promise = 31;
+        promise(31);
         MarkCabinet x = table(3, 3, 6, 1, 4);
         due("WORST", x.key(15, 0), 2);
         due("asked first", x.key(15, 1), 0);
@@ -971,7 +891,7 @@ public final class PromiseTest {
     }
 
     private static void paths() {
-        promise = 32;
+        promise(32);
         MarkCabinet x = table(3, 3, 6, 1, 4);
         x.cost(1, 5);
         due("asked", x.path(15, 0, 0), 2);
@@ -1002,7 +922,7 @@ public final class PromiseTest {
     }
 
     private static void quarrels() {
-        promise = 33;
+        promise(33);
         MarkCabinet x = new MarkCabinet();
         x.find();
         x.find();
@@ -1040,7 +960,7 @@ public final class PromiseTest {
     }
 
     private static void changes() {
-        promise = 34;
+        promise(34);
         MarkCabinet x = new MarkCabinet();
         x.find();
         x.find();
@@ -1087,7 +1007,7 @@ public final class PromiseTest {
 
     /** No call throws, whatever its arguments are and whatever came ahead of it. */
     private static void anyArguments() {
-        promise = 0;
+        promise(0);
         int[] odd = {LOW, LOW + 1, -1000, -2, -1, 0, 1, 2, 9, 10, 11, 15, 16, 31, 32, 63, 255, 999, 1000, 4095, 4096, 65535, 65536, HIGH - 1, HIGH};
         MarkCabinet[] cabinets = {new MarkCabinet(), table(12, 1, 2, 3), table(0, 1, 2), table(12, new int[16])};
         for (MarkCabinet x : cabinets) {

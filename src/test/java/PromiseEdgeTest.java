@@ -433,6 +433,11 @@ public final class PromiseEdgeTest extends Quoted {
         due("no finds: the full set", table(12).concepts(1), 1);
         due("one find with all: the full set", table(12, 4095).concepts(0), 1);
         due("one find with none: two", table(12, 0).concepts(0), 2);
+        x.tell(0, 4, 0, 1, 0);
+        x.tell(0, 4, 1, 1, 0);
+        due("a row told later: all sets", x.concepts(0), 8);
+        x.view(1, 999);
+        due("another view: the empty and the full set", x.concepts(0), 2);
         due("mode 2", x.concepts(2), NONE);
         noneFarOff("mode", x::concepts);
     }
@@ -479,6 +484,10 @@ public final class PromiseEdgeTest extends Quoted {
         due("one find with all", table(12, 4095).rules(1), 1);
         due("all sets are closed", table(3, 3, 5, 6).rules(0), 0);
         due("as many as pairs of twelve", table(12, single(12)).rules(0), 66);
+        MarkCabinet later = table(12);
+        due("no finds", later.rules(0), 1);
+        later.find();
+        due("a find told later has none", later.rules(0), 12);
         MarkCabinet x = table(3, 3, 6, 1, 4);
         due("one", x.rules(0), 1);
         due("mode 2", x.rules(2), NONE);
@@ -648,6 +657,14 @@ public final class PromiseEdgeTest extends Quoted {
         for (int n : FAR) {
             nothingIsDone("the set " + n, PromiseEdgeTest::busy, c -> c.no(n), NONE);
         }
+        nothingIsDone("no mark 4, where the empty set is asked", () -> begun(table(4)), c -> c.no(16), NONE);
+        for (int marks = 0; marks <= 12; marks++) {
+            int all = 1 << marks;
+            MarkCabinet empty = begun(table(marks));
+            due("no mark " + marks + " of " + marks, empty.no(all), NONE);
+            due("the full set leads to itself", empty.no(all - 1), NONE);
+            due("all but the last mark", empty.no(all / 2 - 1), marks == 0 ? NONE : 1);
+        }
         MarkCabinet y = table(3, 0);
         y.explore(0);
         y.no(4);
@@ -704,6 +721,14 @@ public final class PromiseEdgeTest extends Quoted {
         MarkCabinet bare = table(0, new int[16]);
         due("no marks", bare.rows(0, 65535, 0), 20922789888000L);
         due("mark 0 of none", bare.rows(0, 65535, 1), NONE);
+        MarkCabinet later = table(3, 3, 6, 1, 4);
+        due("ahead of a telling", later.rows(0, 15, 7), 2);
+        later.tell(0, 2, 0, 0, 1);
+        due("behind it", later.rows(0, 15, 7), 4);
+        later.view(0, 0);
+        due("as it was", later.rows(0, 15, 7), 2);
+        later.view(1, 0);
+        due("sure of nothing", later.rows(0, 15, 7), 24);
         due("find 16", bare.rows(0, 65536, 0), NONE);
         promise(27, "(Of no FINDS 1.)");
         due("of no finds", x.rows(0, 0, 7), 1);
@@ -756,6 +781,12 @@ public final class PromiseEdgeTest extends Quoted {
         due("no finds: the sum", x.crosses(0, 0, 7, 0), 0);
         due("one find", x.crosses(0, 256, 7, 10), 8);
         due("8 finds: the last", x.crosses(0, 255, 7, 17), 7);
+        MarkCabinet later = table(3, 3, 6, 5, 0);
+        due("ahead of a telling", later.crosses(0, 15, 7, 0), 1);
+        later.tell(0, 2, 1, 0, 1);
+        due("behind it", later.crosses(0, 15, 7, 0), 0);
+        later.view(0, 0);
+        due("as it was", later.crosses(0, 15, 7, 0), 1);
         promise(29, "NONE if one can't be, more than 8 FINDS, or another what.");
         due("no finds: no place", x.crosses(0, 0, 7, 10), NONE);
         due("place 5 of 5", x.crosses(0, 31, 7, 15), NONE);
@@ -815,6 +846,12 @@ public final class PromiseEdgeTest extends Quoted {
         due("twins: one set", table(2, 3, 3).key(3, 2), 1);
         due("no marks", table(0, 0, 0).key(3, 2), 1);
         due("the last mark", table(12, 0, 2048).key(3, 1), 11);
+        MarkCabinet later = table(2, 1, 2);
+        due("ahead of a telling", later.key(3, 2), 2);
+        later.tell(0, 1, 0, 1, 1);
+        due("behind it, twins", later.key(3, 2), 1);
+        later.view(0, 0);
+        due("as it was", later.key(3, 2), 2);
         promise(31, "NONE if one can't be (no FIND), or another what.");
         due("no find", x.key(0, 0), NONE);
         due("no find, what 1", x.key(0, 1), NONE);

@@ -271,6 +271,11 @@ public final class TermsEdgeTest extends Quoted {
         due("6>7", truth("6>a"), 0);
         due("7>7", truth("7>a"), 0);
         due("8>7", truth("8>a"), 1);
+        due("not 7<7", truth("not 7<a"), 1);
+        due("not 7=7", truth("not 7=a"), 0);
+        due("not 7>7", truth("not 7>a"), 1);
+        due("not 6<7", truth("not 6<a"), 0);
+        due("not 8>7", truth("not 8>a"), 0);
         due("not binds closest", truth("not a=7 or a=7"), 1);
         due("not binds closer than and", truth("not a=0 and a=0"), 0);
         due("brackets bind", truth("not(a=7 or a=7)"), 0);
@@ -298,6 +303,8 @@ public final class TermsEdgeTest extends Quoted {
         due("on both sides", truth("1+2=4-1"), 1);
         due("as many as there is room for", truth("0" + times("+1", 397) + "=397"), 1);
         due("below 0", truth("b-c+999=0"), 1);
+        good("a>1" + times("+1", 398) + ";", 1);
+        fault("a>1" + times("+1", 398) + "+", 1, 800);
         fault("+a=1;", 1, 0);
         fault("-1=a;", 1, 0);
         fault("a+=1;", 1, 2);
@@ -377,6 +384,20 @@ public final class TermsEdgeTest extends Quoted {
         fault("knowns a;", 1, 0);
         fault("a<bor c<1;", 1, 2);
         fault("n ot a<1;", 1, 0);
+        fault("a<1 xr b<1;", 1, 4);
+        fault("a<1 ox b<1;", 1, 4);
+        fault("a<1 xnd b<1;", 1, 4);
+        fault("xot a<1;", 1, 0);
+        fault("xnown a;", 1, 0);
+        String[] edges = {"a", "z", "A", "Z"};
+        for (String letter : edges) {
+            fault("a<f" + letter + ";", 1, 2);
+            fault("a<" + letter + "f;", 1, 2);
+        }
+        String[] besides = {"@", "[", "`", "{"};
+        for (String sign : besides) {
+            fault("a<f" + sign + ";", 1, 3);
+        }
         fault("a<1;" + times("a", 796), 1, 4);
     }
 
@@ -396,6 +417,8 @@ public final class TermsEdgeTest extends Quoted {
         fault("a<1;" + times("1", 796), 1, 4);
         fault("1a<1;", 1, 1);
         fault("a1<1;", 1, 1);
+        fault("a<1/;", 1, 4);
+        fault("a<1:;", 1, 3);
     }
 
     private static void signsAndBlanks() {
@@ -940,6 +963,18 @@ public final class TermsEdgeTest extends Quoted {
         due("a mark that all but one have", table(1, 1, 1, 0).rows(0, 7, 1), 4);
         due("16 finds, all orders", table(12, new int[16]).rows(0, 65535, 4095), 20922789888000L);
         due("marks that are not asked do not bind", table(3, 3, 6, 5, 0).rows(0, 15, 3), 4);
+        MarkCabinet chain = table(12, 1, 3, 6, 12, 24, 48, 96, 192, 384, 768, 1536, 3072, 2048);
+        due("twelve marks that bind", chain.rows(0, 8191, 4095), 2);
+        int[] runs = new int[16];
+        for (int i = 0; i < 12; i++) {
+            for (int f = i; f < i + 4; f++) {
+                runs[f] |= 1 << i;
+            }
+        }
+        MarkCabinet all = table(12, runs);
+        due("sixteen finds, no two alike; the last, without marks, at either end", all.rows(0, 65535, 4095), 4);
+        due("the first row ends", all.place(0, 65535, 4095, 0, 15), 15);
+        due("the last row ends", all.place(0, 65535, 4095, 3, 15), 0);
     }
 
     private static void rowsAsWords() {
@@ -982,6 +1017,13 @@ public final class TermsEdgeTest extends Quoted {
             cut[f] = 255 ^ 1 << f;
         }
         due("each mark lacks one find", table(8, cut).crosses(0, 255, 255, 0), 12);
+        int[] pairs = new int[8];
+        for (int i = 0; i < 12; i++) {
+            pairs[i % 7] |= 1 << i;
+            pairs[i % 7 + 1] |= 1 << i;
+        }
+        due("twelve marks of two neighbours each", table(12, pairs).crosses(0, 255, 4095, 0), 0);
+        due("without any neighbour", table(12, pairs).crosses(0, 85, 4095, 0), 0);
         due("16 finds", table(1, new int[16]).crosses(0, 65535, 1, 0), NONE);
         due("the last 8 of 16", table(1, new int[16]).crosses(0, 65280, 1, 0), 0);
     }
@@ -1148,5 +1190,9 @@ public final class TermsEdgeTest extends Quoted {
         due("another value, the same mark", x.changed(0, 7, 8, 0), 0);
         scale(x, "f=4;");
         due("by scales as they are", x.changed(0, 7, 8, 10), 180);
+        for (int m = 0; m < 6; m++) {
+            x.tell(0, 14, m, 4, 9);
+        }
+        due("all measures are", x.changed(0, 8, 9, 10), 168);
     }
 }

@@ -286,6 +286,12 @@ public final class PromiseEdgeTest extends Quoted {
         due("fewer again", scale(x, "a=1;b=1;"), 2);
         due("no mark 2 any more", x.mark(0, 2), NONE);
         due("800 bytes", scale(x, "a=1" + times(" ", 796) + ";"), 1);
+        MarkCabinet full = blank(1);
+        full.tell(0, 0, 0, 7, 0);
+        for (int n = 0; n < 10; n++) {
+            due("800 bytes, time " + n, scale(full, "a" + times("+1", 397) + "=" + (404 + n % 3) + ";"), 1);
+            due("what they cut, time " + n, full.mark(0, 0), n % 3 == 0 ? 1 : 0);
+        }
         promise(8, "NONE: a FAULT (they stay).");
         MarkCabinet y = table(3, 3, 6, 1, 4);
         due("a fault", scale(y, "b=1;c=1;#"), NONE);
@@ -748,7 +754,10 @@ public final class PromiseEdgeTest extends Quoted {
             due("row 1, place " + i, x.place(0, 15, 7, 1, i), row[3 - i]);
         }
         due("place 4 of 4", x.place(0, 15, 7, 0, 4), NONE);
-        due("row 2 of 2", x.place(0, 15, 7, 2, 0), NONE);
+        for (int i = 0; i < 4; i++) {
+            due("row 2 of 2, place " + i, x.place(0, 15, 7, 2, i), NONE);
+            due("row -1, place " + i, x.place(0, 15, 7, -1, i), NONE);
+        }
         noneFarOff("place", n -> x.place(0, 15, 7, 0, n));
         noneFarOff("row", n -> x.place(0, 15, 7, n, 0));
         noneFarOff("row", n -> x.place(0, 15, 7, (long) n << 32, 0));
@@ -767,7 +776,9 @@ public final class PromiseEdgeTest extends Quoted {
         due("one find, row 1", x.place(0, 8, 7, 1, 0), NONE);
         MarkCabinet all = table(12, new int[16]);
         due("the last of 16", all.place(0, 65535, 4095, 20922789887999L, 15), 0);
-        due("behind it", all.place(0, 65535, 4095, 20922789888000L, 15), NONE);
+        for (int i = 0; i < 16; i++) {
+            due("behind it, place " + i, all.place(0, 65535, 4095, 20922789888000L, i), NONE);
+        }
     }
 
     private static void crossed() {

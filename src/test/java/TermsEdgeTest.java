@@ -1,4 +1,5 @@
 import java.io.IOException;
+import java.util.function.IntToLongFunction;
 
 /** The document's terms, sentence by sentence: each that names an edge has a test of its own, on both sides of it. */
 public final class TermsEdgeTest extends Quoted {
@@ -279,6 +280,11 @@ public final class TermsEdgeTest extends Quoted {
         due("not binds closest", truth("not a=7 or a=7"), 1);
         due("not binds closer than and", truth("not a=0 and a=0"), 0);
         due("brackets bind", truth("not(a=7 or a=7)"), 0);
+        due("brackets behind and", truth("a=7 and(a=0 or b=0)"), 1);
+        due("brackets behind and bind", truth("a=0 and(a=7 or a=7)"), 0);
+        due("brackets ahead of and bind", truth("(a=7 or a=7)and a=0"), 0);
+        due("brackets behind or", truth("a=7 or(a=0)"), 1);
+        due("brackets in brackets", truth("a=7 and(b=0 and(a=0 or(c=999)))"), 1);
         due("known", truth("known a"), 1);
         fault("a;", 1, 1);
         fault("a=1=1;", 1, 3);
@@ -604,6 +610,13 @@ public final class TermsEdgeTest extends Quoted {
         }
         due("a comparison behind one that is not known", truth("d=0 or a=0"), 2);
         due("what is not known stays in its comparison", truth("(d=0)and(a=0)or a=7"), 1);
+        MarkCabinet x = blank(1);
+        scale(x, "a=1;");
+        int[] told = {1, -1, 0, -1, 1, 0, 1};
+        for (int v : told) {
+            x.tell(0, 0, 0, v, 0);
+            due("told " + v + " behind another", x.mark(0, 0), v == -1 ? 2 : v);
+        }
     }
 
     private static void knownIsNeverTwo() {
@@ -633,6 +646,70 @@ public final class TermsEdgeTest extends Quoted {
         due("may", x.row(0, 1), 5);
         due("no mode 2", x.row(0, 2), NONE);
         due("no mode -1", x.row(0, -1), NONE);
+        closedInBothModes(halfKnown());
+        rowsInBothModes(halfKnown());
+        crossesInBothModes();
+    }
+
+    /** Sure are 1, 1, 2 and 0, may be 1, 3, 3 and 0. */
+    private static MarkCabinet halfKnown() {
+        MarkCabinet x = table(2, 1, 1, 2, 0);
+        scale(x, "a=1;b=1;");
+        x.tell(0, 1, 1, -1, 0);
+        x.tell(0, 2, 0, -1, 0);
+        x.tell(0, 2, 1, 1, 0);
+        return x;
+    }
+
+    /** What is asked in one mode and then in the other one: first sure, then may, and sure again. */
+    private static void inTurn(String what, IntToLongFunction call, long sure, long may) {
+        due("sure: " + what, call.applyAsLong(0), sure);
+        due("may: " + what, call.applyAsLong(1), may);
+        due("sure again: " + what, call.applyAsLong(0), sure);
+        due("may again: " + what, call.applyAsLong(1), may);
+    }
+
+    private static void closedInBothModes(MarkCabinet x) {
+        inTurn("row of find 1", mode -> x.row(1, mode), 1, 3);
+        inTurn("row of find 2", mode -> x.row(2, mode), 2, 3);
+        inTurn("have mark 0", mode -> x.have(1, mode), 3, 7);
+        inTurn("have both", mode -> x.have(3, mode), 0, 6);
+        inTurn("closure of mark 1", mode -> x.close(2, mode), 2, 3);
+        inTurn("closed sets", x::concepts, 4, 3);
+        inTurn("closed set 1", mode -> x.concept(mode, 1), 2, 1);
+        inTurn("number of mark 1 alone", mode -> x.number(mode, 2), 1, NONE);
+        inTurn("number of both", mode -> x.number(mode, 3), 3, 2);
+        inTurn("rules", x::rules, 0, 1);
+        inTurn("a premise", mode -> x.rule(mode, 0, 0), NONE, 2);
+        inTurn("its closure", mode -> x.rule(mode, 0, 1), NONE, 3);
+        inTurn("what follows from mark 1", mode -> x.follow(mode, 2, 0), 2, 3);
+        inTurn("steps from mark 1", mode -> x.follow(mode, 2, 1), 0, 1);
+        inTurn("mark 0 and not mark 1", mode -> x.against(mode, 1, 2), 3, 1);
+        inTurn("asked", mode -> begun(x, mode).question(0), NONE, 2);
+        inTurn("leads to", mode -> begun(x, mode).question(1), NONE, 3);
+    }
+
+    private static MarkCabinet begun(MarkCabinet x, int mode) {
+        x.explore(mode);
+        return x;
+    }
+
+    private static void rowsInBothModes(MarkCabinet x) {
+        inTurn("rows", mode -> x.rows(mode, 15, 3), 12, 8);
+        inTurn("row 1, place 1", mode -> x.place(mode, 15, 3, 1, 1), 1, 2);
+        inTurn("row 8, place 0", mode -> x.place(mode, 15, 3, 8, 0), 3, NONE);
+    }
+
+    private static void crossesInBothModes() {
+        MarkCabinet x = blank(3);
+        int[] values = {1, 1, 0, 0, 1, 1, 1, 0, -1};
+        for (int s = 0; s < 9; s++) {
+            x.tell(0, s / 3, s % 3, values[s], 0);
+        }
+        scale(x, "a=1;b=1;c=1;");
+        inTurn("crosses", mode -> x.crosses(mode, 7, 7, 0), 0, 1);
+        inTurn("best, place 0", mode -> x.crosses(mode, 7, 7, 10), 1, 0);
+        inTurn("best, place 1", mode -> x.crosses(mode, 7, 7, 11), 0, 1);
     }
 
     private static void setsAreNumbers() {
@@ -956,7 +1033,10 @@ public final class TermsEdgeTest extends Quoted {
         due("no marks: all orders", x.rows(0, 15, 0), 24);
         due("one mark, two have it", x.rows(0, 15, 1), 12);
         due("all marks", x.rows(0, 15, 7), 2);
+        due("no marks again", x.rows(0, 15, 0), 24);
+        due("one mark again", x.rows(0, 15, 1), 12);
         due("only these finds", x.rows(0, 13, 7), 4);
+        due("all of them again", x.rows(0, 15, 7), 2);
         due("each pair has a mark of its own: none", table(3, 3, 6, 5).rows(0, 7, 7), 0);
         due("a mark that none has", table(2, 0, 0, 0).rows(0, 7, 3), 6);
         due("a mark that all have", table(2, 3, 3, 3).rows(0, 7, 3), 6);
@@ -1023,6 +1103,12 @@ public final class TermsEdgeTest extends Quoted {
             pairs[i % 7 + 1] |= 1 << i;
         }
         due("twelve marks of two neighbours each", table(12, pairs).crosses(0, 255, 4095, 0), 0);
+        MarkCabinet tangle = table(12, 1943, 827, 2807, 3964, 3431, 3978, 2507, 3257);
+        due("many crosses", tangle.crosses(0, 255, 4095, 0), 18);
+        due("many crosses: the fifth of the best order", tangle.crosses(0, 255, 4095, 14), 3);
+        due("no marks behind all marks", tangle.crosses(0, 255, 0, 0), 0);
+        due("one find behind all", tangle.crosses(0, 1, 4095, 0), 0);
+        due("all marks again", tangle.crosses(0, 255, 4095, 0), 18);
         due("without any neighbour", table(12, pairs).crosses(0, 85, 4095, 0), 0);
         due("16 finds", table(1, new int[16]).crosses(0, 65535, 1, 0), NONE);
         due("the last 8 of 16", table(1, new int[16]).crosses(0, 65280, 1, 0), 0);
@@ -1085,6 +1171,14 @@ public final class TermsEdgeTest extends Quoted {
         due("mark 2 is 2 of find 0", x.key(7, 1), NONE);
         due("all are left", x.path(7, 2, 2), 7);
         due("it is asked where find 0 is not", x.key(6, 1), 2);
+        x.tell(0, 0, 1, 0, 0);
+        due("it is asked as soon as it is known", x.key(7, 1), 2);
+        x.tell(0, 2, 1, -1, 0);
+        due("mark 2 is 2 of find 2", x.key(7, 1), NONE);
+        MarkCabinet last = table(1, single(16));
+        last.tell(0, 15, 0, -1, 0);
+        due("mark 0 is 2 of find 15", last.key(65535, 1), NONE);
+        due("it is asked where find 15 is not", last.key(32767, 1), 0);
         MarkCabinet y = table(3, 0, 2, 1, 3);
         y.tell(0, 0, 1, -1, 0);
         y.tell(0, 1, 1, 1, 0);
@@ -1095,6 +1189,12 @@ public final class TermsEdgeTest extends Quoted {
         due("16 leaves", table(12, 0, 1, 2, 3, 4, 5, 6, 7, 8, 9, 10, 11, 12, 13, 14, 15).key(65535, 2), 16);
         MarkCabinet z = table(12, 1, 2, 4, 8, 16, 32, 64, 128, 256, 512, 1024, 2048, 0);
         due("12 marks are asked, one by one", z.path(8191, 12, 0), 12);
+        due("13 leaves", z.key(8191, 2), 13);
+        MarkCabinet turned = table(12, 4094, 4093, 4091, 4087, 4079, 4063, 4031, 3967, 3839, 3583, 3071, 2047, 4095);
+        due("12 marks are asked of the find that has them all", turned.path(8191, 12, 0), 12);
+        due("the one with all is left", turned.path(8191, 12, 2), 4096);
+        due("13 leaves", turned.key(8191, 2), 13);
+        due("WORST of 12 marks", turned.key(8191, 0), 12);
         MarkCabinet none = table(0, 0, 0);
         due("no marks: none is asked", none.key(3, 1), NONE);
         due("no marks: one set of twins", none.key(3, 2), 1);

@@ -63,12 +63,17 @@ public final class LanguageTest {
         }
         due(due.size() == 33, "the document's face has " + due.size() + " methods");
         due(due.equals(found), "rule 1: the face is " + found + ", due is " + due);
-        due(MarkCabinet.class.getDeclaredConstructors().length == 1, "rule 1: one constructor");
+        Constructor<?>[] made = MarkCabinet.class.getDeclaredConstructors();
+        due(made.length == 1 && made[0].getParameterCount() == 0 && Modifier.isPublic(made[0].getModifiers()), "rule 1: the constructor");
         int flags = MarkCabinet.class.getModifiers();
         due(Modifier.isPublic(flags) && Modifier.isFinal(flags), "rule 1: public and final");
+        int constants = 0;
         for (Field field : MarkCabinet.class.getDeclaredFields()) {
-            due(field.getName().equals("NONE") || Modifier.isPrivate(field.getModifiers()), "rule 1: " + field + " is not private");
+            boolean constant = field.toString().equals("public static final int MarkCabinet.NONE");
+            constants += constant ? 1 : 0;
+            due(constant || Modifier.isPrivate(field.getModifiers()), "rule 1: " + field + " is not private");
         }
+        due(constants == 1, "rule 1: the constant NONE");
     }
 
     private static boolean named(Set<String> face, String name) {

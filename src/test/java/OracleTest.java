@@ -8,7 +8,12 @@ import java.util.Random;
 /** Random runs of calls against a second cabinet that does what the document says in the most literal way. */
 public final class OracleTest {
     private static final int RUNS = 1500;
-    private static final int CALLS = 200;
+    private static final int STEPS = 200;
+    /** An object's calls come to an end; some runs go there. */
+    private static final int MOST_CALLS = 512;
+    private static final int LONG_RUNS = 8;
+    /** No step has more calls: 40 to feed a text, one to end it, three to read it and its fault. */
+    private static final int CALLS_OF_A_STEP = 44;
 
     public static void main(String[] args) {
         int runs = args.length > 0 ? Integer.parseInt(args[0]) : RUNS;
@@ -17,8 +22,14 @@ public final class OracleTest {
         int compared = 0;
         for (long seed = firstSeed; seed < firstSeed + runs && wrong < 5; seed++) {
             Run run = new Run(seed);
-            for (int c = 0; c < CALLS && run.good; c++) {
+            for (int c = 0; c < STEPS && run.good && run.mayGoOn(); c++) {
                 run.step();
+            }
+            while (seed % LONG_RUNS == 0 && run.good && run.mayGoOn()) {
+                run.step();
+            }
+            while (seed % LONG_RUNS == 0 && run.good && run.calls < MOST_CALLS) {
+                run.lastStep();
             }
             compared += run.log.size();
             if (!run.good) {
@@ -131,6 +142,7 @@ public final class OracleTest {
         final Naive n = new Naive();
         final List<String> log = new ArrayList<>();
         boolean good = true;
+        int calls = 0;
         int day = 0;
         final int style;
         int m = 0;
@@ -179,7 +191,12 @@ public final class OracleTest {
             scales(text.toString());
         }
 
+        boolean mayGoOn() {
+            return calls + CALLS_OF_A_STEP <= MOST_CALLS;
+        }
+
         void same(String call, long got, long due) {
+            calls++;
             log.add(call + " = " + got + (got == due ? "" : "   WRONG, due is " + due));
             good = good && got == due;
         }
@@ -341,6 +358,7 @@ public final class OracleTest {
         void scales(String text) {
             feed(x, text);
             feed(n, text);
+            calls += (text.length() + 19) / 20 + 1;
             same("feed \"" + text.replace("\n", "\\n") + "\", scales()", x.scales(), n.scales());
             same("fault(0)", x.fault(0), n.fault(0));
             same("fault(1)", x.fault(1), n.fault(1));
@@ -434,6 +452,30 @@ public final class OracleTest {
                 }
                 default:
                     stepOn();
+            }
+        }
+
+        /** One call alone, so that the last one of a run is an object's last one. */
+        void lastStep() {
+            int f = findSet();
+            int m = mode();
+            int w = odd(3);
+            switch (random.nextInt(5)) {
+                case 0:
+                    same("key(" + f + ", " + w + ")", x.key(f, w), n.key(f, w));
+                    break;
+                case 1:
+                    same("concepts(" + m + ")", x.concepts(m), n.concepts(m));
+                    break;
+                case 2:
+                    same("rules(" + m + ")", x.rules(m), n.rules(m));
+                    break;
+                case 3:
+                    same("question(" + w + ")", x.question(w), n.question(w));
+                    break;
+                default:
+                    tell();
+                    break;
             }
         }
 
